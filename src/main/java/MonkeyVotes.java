@@ -398,7 +398,6 @@ public final class MonkeyVotes {
         int readsAll(char[] text, int letters) {
             told.isAsAtFirst();
             item = NO_ITEM;
-            numbers = 0;
             items = 0;
             streetsTold = false;
             tunesTold = false;
@@ -537,7 +536,6 @@ public final class MonkeyVotes {
                 told.organs++;
             }
             item = NO_ITEM;
-            numbers = 0;
             items++;
             return true;
         }

@@ -91,6 +91,21 @@ public final class KingdomTest {
         Due.fault("s3   ", 5);
         Due.fault("s3;m0 0 3 3", 11);
         Due.fault("o", 1);
+        // Numbers of a text that was cleared do not count for the next one.
+        MonkeyVotes votes = new MonkeyVotes();
+        Due.types(votes, "m0 0 3");
+        Due.is("kingdom() of half an item", votes.kingdom(), -10 - 6);
+        votes.clear();
+        Due.types(votes, "7;");
+        Due.is("kingdom() of a number behind it", votes.kingdom(), -10);
+        votes.clear();
+        Due.types(votes, "o2 7;");
+        Due.is("kingdom() of an item behind it", votes.kingdom(), 1);
+        // A letter of the cleared text that stands behind the text is none of it.
+        Due.types(votes, "s345");
+        votes.clear();
+        Due.types(votes, "s3");
+        Due.is("kingdom() of a shorter text", votes.kingdom(), -10 - 2);
     }
 
     private static void faultsOfNumbers() {
@@ -164,9 +179,11 @@ public final class KingdomTest {
 
     private static void allAnew() {
         MonkeyVotes votes = Due.told("s5;t4;m4 5 6 0 3 3;o4 7;");
-        votes.plays(0, 0);
+        votes.poll();
         votes.gives(0);
         votes.poll();
+        votes.plays(0, 0);
+        votes.gives(0);
         votes.weather(5);
         votes.knows(3, 3, 0);
         votes.keep(0);
