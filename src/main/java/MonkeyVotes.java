@@ -89,7 +89,7 @@ public final class MonkeyVotes {
         letters = 0;
         land.becomes(reader.told);
         today.starts();
-        past.isLost();
+        past.losesAll();
         likings.known = 0;
         for (int image = 0; image < IMAGES; image++) {
             kept[image] = false;
@@ -317,7 +317,7 @@ public final class MonkeyVotes {
             return STATE;
         }
         today.becomes(images[image]);
-        past.isLost();
+        past.losesAll();
         return today.cold;
     }
 
@@ -361,7 +361,7 @@ public final class MonkeyVotes {
             return tune >= 0 && tune < tunes;
         }
 
-        void isAsAtFirst() {
+        void empties() {
             streets = FIRST_STREETS;
             tunes = FIRST_TUNES;
             monkeys = 0;
@@ -396,7 +396,7 @@ public final class MonkeyVotes {
 
         /** How many items, or -10 less the place of the fault. */
         int readsAll(char[] text, int letters) {
-            told.isAsAtFirst();
+            told.empties();
             item = NO_ITEM;
             items = 0;
             streetsTold = false;
@@ -660,7 +660,7 @@ public final class MonkeyVotes {
             many--;
         }
 
-        void isLost() {
+        void losesAll() {
             many = 0;
         }
     }
