@@ -580,7 +580,8 @@ public final class MonkeyVotes {
 
         /** The organ plays the tune: the tune that is heard. */
         int sounds(int o, int tune) {
-            int heard = (tune + wear[o] / WEAR_TO_SLIP) % land.tunes;
+            int slipped = tune + wear[o] / WEAR_TO_SLIP;
+            int heard = land.tunes > 1 ? slipped % land.tunes : 0;
             for (int m = 0; m < land.monkeys; m++) {
                 if (land.home[m] == place[o]) {
                     int felt = mood[m] + land.liking[m][heard];

@@ -1,14 +1,24 @@
+import java.util.Arrays;
+import java.util.List;
+import java.util.function.Supplier;
+
 /** Counts and prints the answers that are not the ones that are due. */
 final class Due {
     private static int wrong = 0;
+    private static String words = "";
 
     private Due() {
+    }
+
+    /** The words of the document by which the answers from here on are due. */
+    static void by(String sentence) {
+        words = "(" + sentence + ") ";
     }
 
     static void is(String call, long got, long want) {
         if (got != want) {
             wrong++;
-            System.out.println(call + " answered " + got + ", due is " + want);
+            System.out.println(words + call + " answered " + got + ", due is " + want);
         }
     }
 
@@ -45,10 +55,31 @@ final class Due {
         is("letters behind the fault of \"" + text + "\"", votes.count(5), text.length());
     }
 
+    /** A new object reads the text as so many items, and the text is empty then. */
     static void items(String text, int many) {
         MonkeyVotes votes = new MonkeyVotes();
         types(votes, text);
         is("kingdom() of \"" + text + "\"", votes.kingdom(), many);
         is("letters behind kingdom() of \"" + text + "\"", votes.count(5), 0);
+    }
+
+    /**
+     * The call is refused by the answer, and what can be seen of the object is the same behind it.
+     * What is seen ahead of it is given along, for many calls may be refused by one scene.
+     */
+    static void refused(Supplier<MonkeyVotes> scene, List<Long> ahead, long want, String name, int... numbers) {
+        int[] n = Arrays.copyOf(numbers, 3);
+        String call = name + Arrays.toString(numbers);
+        is(call, Calls.answer(scene.get(), name, n[0], n[1], n[2]), want);
+        List<Long> behind = Sight.of(() -> {
+            MonkeyVotes votes = scene.get();
+            Calls.answer(votes, name, n[0], n[1], n[2]);
+            return votes;
+        });
+        is("what can be seen is the same behind " + call, behind.equals(ahead) ? 1 : 0, 1);
+    }
+
+    static void refused(Supplier<MonkeyVotes> scene, long want, String name, int... numbers) {
+        refused(scene, Sight.of(scene), want, name, numbers);
     }
 }
